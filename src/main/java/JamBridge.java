@@ -28,7 +28,6 @@ public final class JamBridge {
     private static final int SET_RATE = 4;
     private static final int PASS = 5;
     private static final int REMOVE_SPAN = 6;
-    private static final int KINDS = 7;
 
     // Why a change is refused: 1 to 8 are the denials, the others say which exception is due.
     private static final int NOTHING = 0;
@@ -65,21 +64,25 @@ public final class JamBridge {
     // ---- spans
 
     public int addSpan(int length) throws IllegalArgumentException, UnsupportedOperationException {
-        return change(ADD_SPAN, length, 0);
+        prepare(ADD_SPAN, length, 0);
+        return bridge.appendSpan(length);
     }
 
     public int removeLastSpan() throws UnsupportedOperationException {
-        return change(REMOVE_SPAN, 0, 0);
+        prepare(REMOVE_SPAN, 0, 0);
+        return bridge.dropLastSpan();
     }
 
     public int pour(int span, int jars)
             throws IndexOutOfBoundsException, IllegalArgumentException, UnsupportedOperationException {
-        return change(POUR, span, jars);
+        prepare(POUR, span, jars);
+        return bridge.addJars(span, jars);
     }
 
     public int mend(int span, int cracks)
             throws IndexOutOfBoundsException, IllegalArgumentException, UnsupportedOperationException {
-        return change(MEND, span, cracks);
+        prepare(MEND, span, cracks);
+        return bridge.repair(span, cracks);
     }
 
     public int spanCount() {
@@ -125,10 +128,12 @@ public final class JamBridge {
             throws IndexOutOfBoundsException, IllegalArgumentException, NoSuchElementException {
         requireSpan(span);
         requireWeight(weight);
+        trial.copyFrom(bridge);
         for (int hours = 0; hours <= SETTING_HOURS; hours++) {
-            if (bridge.strengthAtAge(span, bridge.ages[span] + hours) >= weight) {
+            if (trial.strengthOf(span) >= weight) {
                 return hours;
             }
+            trial.ages[span]++;
         }
         throw new NoSuchElementException("the span never bears this weight");
     }
@@ -162,15 +167,18 @@ public final class JamBridge {
     // ---- vehicles
 
     public int enter(int weight) throws IllegalArgumentException, UnsupportedOperationException {
-        return change(ENTER, weight, 0);
+        prepare(ENTER, weight, 0);
+        return bridge.appendVehicle(weight);
     }
 
     public int pass(int hours) throws IllegalArgumentException {
-        return change(PASS, hours, 0);
+        prepare(PASS, hours, 0);
+        return bridge.letHoursPass(hours);
     }
 
     public int setRate(int rate) throws IllegalArgumentException, UnsupportedOperationException {
-        return change(SET_RATE, rate, 0);
+        prepare(SET_RATE, rate, 0);
+        return bridge.replaceRate(rate);
     }
 
     public int vehicleCount() {
@@ -371,9 +379,8 @@ public final class JamBridge {
     }
 
     public int denialCause() throws NoSuchElementException {
-        requireDenial();
         if (deniedCause == NOTHING) {
-            throw new NoSuchElementException("the latest denial has no cause");
+            throw new NoSuchElementException("nothing was denied yet, or the latest denial has no cause");
         }
         return deniedCause;
     }
@@ -409,23 +416,20 @@ public final class JamBridge {
 
     // ---- what several calls share
 
-    private int change(int kind, int first, int second) {
-        if (!judge.allows(bridge, kind, first, second)) {
-            refuse();
-        }
-        history.keep(bridge);
-        return bridge.carryOut(kind, first, second);
-    }
-
-    private void refuse() {
-        if (judge.reason == NO_SUCH_SPAN) {
+    /** Refuses a change, or keeps the bridge as it is before it. */
+    private void prepare(int kind, int first, int second) {
+        boolean allowed = judge.allows(bridge, kind, first, second);
+        if (!allowed && judge.reason == NO_SUCH_SPAN) {
             throw new IndexOutOfBoundsException("no such span");
         }
-        if (judge.reason == OUT_OF_RANGE) {
+        if (!allowed && judge.reason == OUT_OF_RANGE) {
             throw new IllegalArgumentException("out of range");
         }
-        keepDenial(judge.reason, judge.detail, NOTHING);
-        throw new UnsupportedOperationException("denied");
+        if (!allowed) {
+            keepDenial(judge.reason, judge.detail, NOTHING);
+            throw new UnsupportedOperationException("denied");
+        }
+        history.keep(bridge);
     }
 
     private void keepDenial(int number, int detail, int cause) {
@@ -509,14 +513,10 @@ public final class JamBridge {
         }
 
         int strengthOf(int span) {
-            return hasSpan(span) ? strengthAtAge(span, ages[span]) : 0;
-        }
-
-        int strengthAtAge(int span, int age) {
             if (!hasSpan(span) || lengths[span] < 1) {
                 return 0;
             }
-            int setStrength = jars[span] * Math.min(age, SETTING_HOURS) / lengths[span];
+            int setStrength = jars[span] * Math.min(ages[span], SETTING_HOURS) / lengths[span];
             return setStrength * (TENTHS - cracks[span]) / TENTHS;
         }
 
@@ -576,29 +576,33 @@ public final class JamBridge {
             return hasPosition(position) ? (weights[position] * rate + 9) / 10 : 0;
         }
 
-        /** Makes a change that the judge has allowed, and answers what its call answers. */
-        int carryOut(int kind, int first, int second) {
+        /** Makes a change that the judge has allowed. */
+        void carryOut(int kind, int first, int second) {
             switch (kind) {
                 case ADD_SPAN:
-                    return appendSpan(first);
+                    appendSpan(first);
+                    break;
                 case POUR:
-                    return addJars(first, second);
+                    addJars(first, second);
+                    break;
                 case ENTER:
-                    return appendVehicle(first);
+                    appendVehicle(first);
+                    break;
                 case MEND:
-                    return repair(first, second);
+                    repair(first, second);
+                    break;
                 case SET_RATE:
-                    return replaceRate(first);
+                    replaceRate(first);
+                    break;
                 case PASS:
-                    return letHoursPass(first);
-                case REMOVE_SPAN:
-                    return dropLastSpan();
+                    letHoursPass(first);
+                    break;
                 default:
-                    return 0;
+                    dropLastSpan();
             }
         }
 
-        private int appendSpan(int length) {
+        int appendSpan(int length) {
             int span = spans;
             if (span >= MOST_SPANS) {
                 return NONE;
@@ -612,7 +616,7 @@ public final class JamBridge {
             return span;
         }
 
-        private int dropLastSpan() {
+        int dropLastSpan() {
             int span = spans - 1;
             if (!hasSpan(span)) {
                 return 0;
@@ -621,7 +625,7 @@ public final class JamBridge {
             return jars[span];
         }
 
-        private int addJars(int span, int added) {
+        int addJars(int span, int added) {
             if (!hasSpan(span)) {
                 return 0;
             }
@@ -635,7 +639,7 @@ public final class JamBridge {
             return ages[span];
         }
 
-        private int repair(int span, int mended) {
+        int repair(int span, int mended) {
             if (hasSpan(span)) {
                 cracks[span] -= mended;
                 till -= mended * MEND_PRICE;
@@ -643,13 +647,13 @@ public final class JamBridge {
             return till;
         }
 
-        private int replaceRate(int newRate) {
+        int replaceRate(int newRate) {
             int before = rate;
             rate = newRate;
             return before;
         }
 
-        private int appendVehicle(int weight) {
+        int appendVehicle(int weight) {
             int position = vehicles;
             if (position >= MOST_VEHICLES) {
                 return NONE;
@@ -804,11 +808,8 @@ public final class JamBridge {
                 case PASS:
                     judgeHours(first);
                     break;
-                case REMOVE_SPAN:
-                    judgeRemoval(bridge);
-                    break;
                 default:
-                    because(OUT_OF_RANGE, 0);
+                    judgeRemoval(bridge);
             }
             return reason == NOTHING;
         }
@@ -966,12 +967,24 @@ public final class JamBridge {
             if (position >= length) {
                 return NONE;
             }
-            for (int kind = 0; kind < KINDS; kind++) {
-                if (patternOf(kind).charAt(0) == signs[position]) {
-                    return kind;
-                }
+            switch (signs[position]) {
+                case 's':
+                    return ADD_SPAN;
+                case 'p':
+                    return POUR;
+                case 'e':
+                    return ENTER;
+                case 'm':
+                    return MEND;
+                case 'r':
+                    return SET_RATE;
+                case 'w':
+                    return PASS;
+                case 'c':
+                    return REMOVE_SPAN;
+                default:
+                    return NONE;
             }
-            return NONE;
         }
 
         private static String patternOf(int kind) {

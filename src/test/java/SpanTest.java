@@ -76,14 +76,17 @@ public final class SpanTest {
         check.same("removing the only span", bridge.removeLastSpan(), 50);
         check.denied("removing when none is left", bridge, 3, 40, bridge::removeLastSpan);
 
-        JamBridge cracked = Scene.cracked(6);
-        check.same("cracks that have spread", cracked.cracks(1), 1);
-        cracked.removeLastSpan();
-        cracked.addSpan(3);
-        check.same("cracks of a new span in that place", cracked.cracks(1), 0);
-        cracked.enter(40);
-        cracked.pass(1);
-        check.same("stress of span 0", cracked.stress(0), 1);
+        // At hour 54 the vehicle moves onto span 1, strains it, and sinks by the crack that spreads there.
+        JamBridge used = Scene.cracked(6);
+        used.pour(1, 6);
+        used.enter(30);
+        used.pass(6);
+        check.same("vehicles", used.vehicleCount(), 0);
+        check.same("stress, cracks, age before", used.stress(1) * 100 + used.cracks(1) * 10 + used.age(1), 126);
+        check.same("jars before", used.removeLastSpan(), 6);
+        used.addSpan(3);
+        check.same("the new span in that place", Scene.span(used, 1), "1:3j0h0=0");
+        check.same("its stress", used.stress(1), 0);
     }
 
     private static void pour() {
@@ -288,6 +291,9 @@ public final class SpanTest {
         check.same("60 at hour 50", bridge.hoursUntilBears(0, 60), 0);
         check.same("60 at hour 50 by division", bridge.hoursUntilBearsByDivision(0, 60), 0);
         check.fails("61 at hour 50", NoSuchElementException.class, () -> bridge.hoursUntilBears(0, 61));
+        JamBridge thin = Scene.bridge(0, 3, 1);
+        check.same("5 of 1 jar on 3", thin.hoursUntilBearsByDivision(0, 5), 15);
+        check.same("8 of 1 jar on 3", thin.hoursUntilBears(0, 8), 24);
         check.same("99 of the strongest", Scene.bridge(0, 1, 50).hoursUntilBears(0, 99), 2);
         check.same("nothing has changed", bridge.hour(), 50);
     }

@@ -129,6 +129,9 @@ public final class TextTest {
         bridge.undo();
         check.same("kept over undo", bridge.faultPosition(), 3);
         bridge.saveSnapshot();
+        Scene.feed(bridge, "span");
+        check.fails("a text shorter than the one before", IllegalArgumentException.class, bridge::execute);
+        check.same("its end", bridge.faultPosition(), 4);
         check.fails("another fault", IllegalArgumentException.class, bridge::execute);
         bridge.restoreSnapshot();
         check.same("kept over a restored snapshot", bridge.faultPosition(), 0);

@@ -59,6 +59,11 @@ public final class VehicleTest {
         check.same("a denied one takes no number", bridge.enter(1), 2);
         bridge.undo();
         check.same("the number is undone", bridge.enter(2), 2);
+        JamBridge two = Scene.bridge(24, 4, 10, 4, 10);
+        two.enter(1);
+        two.pass(2);
+        two.enter(1);
+        check.same("on span 0, though the one before left from span 1", two.spanOf(1), 0);
     }
 
     private static void pass() {
@@ -216,6 +221,8 @@ public final class VehicleTest {
 
     private static void loads() {
         JamBridge bridge = Scene.bridge(24, 4, 10, 4, 10);
+        bridge.enter(9);
+        bridge.pass(2);
         check.same("totalLoad of none", bridge.totalLoad(), 0);
         check.same("totalLoadByVehicles of none", bridge.totalLoadByVehicles(), 0);
         bridge.enter(11);
