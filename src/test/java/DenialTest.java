@@ -35,6 +35,15 @@ public final class DenialTest {
         Scene.feed(bridge, "cut");
         check.denied("cut", bridge, 8, 0, bridge::execute);
         check.same("cause", bridge.denialCause(), 3);
+        bridge.pass(1);
+        bridge.undo();
+        bridge.saveSnapshot();
+        bridge.restoreSnapshot();
+        Scene.run(bridge, "rate 6;rate 5");
+        Scene.feed(bridge, "cutt");
+        check.fails("a fault", IllegalArgumentException.class, bridge::execute);
+        check.same("denial 8 is kept, too", bridge.denial() * 100 + bridge.denialDetail(), 800);
+        check.same("and its cause", bridge.denialCause(), 3);
         check.denied("setRate(5) again", bridge, 7, 5, () -> bridge.setRate(5));
     }
 

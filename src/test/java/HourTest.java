@@ -13,7 +13,10 @@ public final class HourTest {
         spreading();
         spreadingCountsBefore();
         spreadingNeedsMore();
+        spreadingAtTheEnds();
+        stressBeforeSpreading();
         sinking();
+        sinkingTogether();
         check.end();
     }
 
@@ -214,6 +217,57 @@ public final class HourTest {
         check.same("mended", nine.cracks(0), 0);
         Scene.pass(nine, 6);
         check.same("from the right", nine.cracks(0), 1);
+    }
+
+    private static void spreadingAtTheEnds() {
+        // Span 2 gets 6 cracks; when span 3 is removed, it is the last one, and span 0 is no neighbour of it.
+        JamBridge bridge = Scene.bridge(24, 1, 50, 1, 50, 12, 50, 1, 0);
+        for (int weight : new int[] {90, 70, 50}) {
+            bridge.enter(weight);
+            bridge.pass(8);
+        }
+        check.same("hour", bridge.hour(), 48);
+        check.same("the last but one", bridge.cracks(2), 6);
+        check.same("left of it", bridge.cracks(1), 1);
+        check.same("right of it", bridge.cracks(3), 1);
+        check.same("the first", bridge.cracks(0), 0);
+        bridge.removeLastSpan();
+        bridge.pass(6);
+        check.same("left of the last one", bridge.cracks(1), 2);
+        check.same("the first is no neighbour of the last", bridge.cracks(0), 0);
+
+        // One span alone has no neighbour.
+        JamBridge alone = Scene.cracked(6);
+        alone.removeLastSpan();
+        Scene.pass(alone, 48);
+        check.same("no neighbour", alone.cracks(0), 6);
+    }
+
+    private static void stressBeforeSpreading() {
+        // The fifth crack comes at hour 48 by stress, and spreads in the same hour.
+        JamBridge bridge = Scene.cracked(4);
+        bridge.pass(3);
+        bridge.enter(50);
+        bridge.pass(2);
+        check.same("4 cracks at hour 47", bridge.cracks(0), 4);
+        check.same("none beside them", bridge.cracks(1), 0);
+        bridge.pass(1);
+        check.same("5 cracks at hour 48", bridge.cracks(0), 5);
+        check.same("1 beside them", bridge.cracks(1), 1);
+    }
+
+    private static void sinkingTogether() {
+        // 87 + 4 + 4 + 4 on a strength that falls from 100 to 90.
+        JamBridge bridge = Scene.bridge(24, 12, 50, 1, 0);
+        for (int weight : new int[] {87, 4, 4, 4}) {
+            bridge.enter(weight);
+        }
+        bridge.pass(2);
+        check.same("all are borne by 100", bridge.vehicleCount(), 4);
+        bridge.pass(1);
+        check.same("three sink in one hour", bridge.sunk(), 3);
+        check.same("the lowest number stays", bridge.vehicleAt(0), 0);
+        check.same("the load that is left", bridge.load(0), 87);
     }
 
     private static void sinking() {

@@ -27,13 +27,13 @@ public final class ModelTest {
     private static int[] denials = new int[10];
 
     public static void main(String[] args) {
-        for (int run = 1; run <= 3000; run++) {
+        for (int run = 1; run <= 6000; run++) {
             seed = run * 7919L;
             bridge = new JamBridge();
             model = new Model();
             calls = 0;
             int style = draw(4);
-            while (calls < 480) {
+            while (calls < 360) {
                 what = "run " + run + ", call " + calls;
                 step(style);
             }
@@ -86,7 +86,7 @@ public final class ModelTest {
         int kind = draw(100);
         if (kind < 60) {
             change(style);
-        } else if (kind < 66 && calls < 400) {
+        } else if (kind < 66 && calls < 280) {
             text(style);
         } else if (kind < 70) {
             same("undo", () -> bridge.undo(), () -> model.undo());
@@ -355,6 +355,14 @@ public final class ModelTest {
 
     private static void compareAll() {
         accounts();
+        int before = model.state.spans.size();
+        for (Model.Vehicle due : model.state.vehicles) {
+            int number = due.number;
+            same("weightOf", () -> bridge.weightOf(number), () -> due.weight);
+            int span = (int) same("spanOf", () -> bridge.spanOf(number), () -> due.span);
+            check.yes(what + ": a higher number is on no higher span", span <= before);
+            before = span;
+        }
         for (int index = 0; index < model.state.spans.size(); index++) {
             int span = index;
             for (String name : SPAN_NUMBERS) {

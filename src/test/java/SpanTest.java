@@ -11,7 +11,9 @@ public final class SpanTest {
         pour();
         pouredAge();
         mend();
+        keptStress();
         wrongSpans();
+        removedSpan();
         spanQueries();
         strength();
         strained();
@@ -186,23 +188,68 @@ public final class SpanTest {
         return bridge;
     }
 
+    private static void keptStress() {
+        JamBridge mended = Scene.cracked(1);
+        mended.pass(1);
+        check.same("stress before mending", mended.stress(0), 1);
+        mended.mend(0, 1);
+        check.same("mending leaves the stress", mended.stress(0), 1);
+        mended.pass(2);
+        check.same("so that the third hour cracks it", mended.cracks(0), 1);
+
+        // At hour 54 the vehicle moves onto span 1, strains it, and sinks by the crack that spreads there.
+        JamBridge poured = Scene.cracked(6);
+        poured.pour(1, 6);
+        poured.enter(30);
+        poured.pass(6);
+        check.same("stress and cracks before pouring", poured.stress(1) * 10 + poured.cracks(1), 12);
+        poured.pour(1, 1);
+        check.same("pouring leaves both", poured.stress(1) * 10 + poured.cracks(1), 12);
+    }
+
     private static void wrongSpans() {
         JamBridge bridge = Scene.bridge(3, 4, 5, 6, 7);
         for (int span : new int[] {-1, 2, 9, 10, Integer.MIN_VALUE, Integer.MAX_VALUE}) {
-            String at = "(" + span + ")";
-            Class<IndexOutOfBoundsException> due = IndexOutOfBoundsException.class;
-            check.fails("jars" + at, due, () -> bridge.jars(span));
-            check.fails("age" + at, due, () -> bridge.age(span));
-            check.fails("cracks" + at, due, () -> bridge.cracks(span));
-            check.fails("stress" + at, due, () -> bridge.stress(span));
-            check.fails("strength" + at, due, () -> bridge.strength(span));
-            check.fails("load" + at, due, () -> bridge.load(span));
-            check.fails("isStrained" + at, due, () -> bridge.isStrained(span));
-            check.fails("hoursUntilBears" + at, due, () -> bridge.hoursUntilBears(span, 0));
-            check.fails("hoursUntilBearsByDivision" + at, due, () -> bridge.hoursUntilBearsByDivision(span, 0));
-            check.fails("writeSpan" + at, due, () -> bridge.writeSpan(span));
+            noSuchSpan(bridge, span);
         }
-        check.fails("jars(0) of no spans", IndexOutOfBoundsException.class, () -> new JamBridge().jars(0));
+        noSuchSpan(new JamBridge(), 0);
+    }
+
+    private static void noSuchSpan(JamBridge bridge, int span) {
+        String at = "(" + span + ") of " + bridge.spanCount() + " spans";
+        Class<IndexOutOfBoundsException> due = IndexOutOfBoundsException.class;
+        check.fails("jars" + at, due, () -> bridge.jars(span));
+        check.fails("age" + at, due, () -> bridge.age(span));
+        check.fails("cracks" + at, due, () -> bridge.cracks(span));
+        check.fails("stress" + at, due, () -> bridge.stress(span));
+        check.fails("strength" + at, due, () -> bridge.strength(span));
+        check.fails("load" + at, due, () -> bridge.load(span));
+        check.fails("isStrained" + at, due, () -> bridge.isStrained(span));
+        check.fails("hoursUntilBears" + at, due, () -> bridge.hoursUntilBears(span, 1));
+        check.fails("hoursUntilBearsByDivision" + at, due, () -> bridge.hoursUntilBearsByDivision(span, 1));
+        check.fails("hoursUntilBears, ahead of the weight" + at, due, () -> bridge.hoursUntilBears(span, 0));
+        check.fails("hoursUntilBearsByDivision, ahead of the weight" + at, due,
+                () -> bridge.hoursUntilBearsByDivision(span, 0));
+        check.fails("writeSpan" + at, due, () -> bridge.writeSpan(span));
+        check.fails("pour" + at, due, () -> bridge.pour(span, 1));
+        check.fails("mend" + at, due, () -> bridge.mend(span, 1));
+    }
+
+    private static void removedSpan() {
+        JamBridge bridge = Scene.bridge(24, 4, 5, 6, 7);
+        bridge.removeLastSpan();
+        noSuchSpan(bridge, 1);
+        check.fails("its rank", NoSuchElementException.class, () -> bridge.spanByStrength(1));
+        bridge.removeLastSpan();
+        noSuchSpan(bridge, 0);
+        check.fails("the last rank", NoSuchElementException.class, () -> bridge.spanByStrength(0));
+        bridge.undo();
+        check.same("there again", bridge.jars(0), 5);
+        noSuchSpan(bridge, 1);
+        JamBridge undone = Scene.bridge(24, 4, 5);
+        undone.addSpan(6);
+        undone.undo();
+        noSuchSpan(undone, 1);
     }
 
     private static void spanQueries() {
@@ -243,7 +290,13 @@ public final class SpanTest {
         check.same("one jar on 20", Scene.bridge(20, 20, 1).strength(0), 1);
         check.same("100 with 7 cracks", Scene.cracked(7).strength(0), 30);
         check.same("100 with 9 cracks", Scene.cracked(9).strength(0), 10);
-        // Set strength 36 * 24 / 12 = 72; both divisions are rounded down: 72 * 9 / 10.
+        // Each of both divisions is rounded down: 50 * 24 / 13 is 92, and 92 * 9 / 10 is 82, not 83.
+        JamBridge uneven = Scene.bridge(24, 13, 50, 1, 0);
+        check.same("92 without cracks", uneven.strength(0), 92);
+        uneven.enter(80);
+        uneven.pass(3);
+        check.same("92 with a crack", uneven.strength(0), 82);
+        // Set strength 36 * 24 / 12 = 72.
         JamBridge bridge = Scene.bridge(24, 12, 36, 1, 0);
         bridge.enter(60);
         bridge.pass(3);

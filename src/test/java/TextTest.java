@@ -126,6 +126,11 @@ public final class TextTest {
         check.same("kept", bridge.faultPosition(), 3);
         Scene.run(bridge, "span 1");
         check.same("kept over a text that matches", bridge.faultPosition(), 3);
+        Scene.feed(bridge, "span 0");
+        check.denied("a denied text", bridge, 8, 0, bridge::execute);
+        check.same("kept over a denied text", bridge.faultPosition(), 3);
+        bridge.saveSnapshot();
+        check.same("kept over a snapshot", bridge.faultPosition(), 3);
         bridge.undo();
         check.same("kept over undo", bridge.faultPosition(), 3);
         bridge.saveSnapshot();
@@ -170,7 +175,9 @@ public final class TextTest {
         JamBridge bridge = new JamBridge();
         String text = "span 1;span 2;span 3;span 4;span 5;span 6;span 7;span 10;cut";
         check.same("60 characters", text.length(), 60);
-        check.same("9 commands", Scene.run(bridge, text), 9);
+        Scene.feed(bridge, text);
+        check.fails("a 61st character", IllegalStateException.class, () -> bridge.feed(';'));
+        check.same("9 commands, whatever was refused", bridge.execute(), 9);
         check.same("spans", bridge.spanCount(), 7);
         Scene.run(bridge, "span 1;span 1;span 1");
         Scene.feed(bridge, "cut;cut;cut;cut;cut;cut;cut;cut;cut;cut;cut;cut;cut;cut;cut");
@@ -227,6 +234,9 @@ public final class TextTest {
         check.same("line after undo", Scene.line(bridge, 9), "97!|49!|0");
         check.same("replaced by another one", bridge.writeSpan(2), 9);
         check.fails("its end", IndexOutOfBoundsException.class, () -> bridge.lineCharacter(9));
+        JamBridge ten = Scene.bridge(24, 1, 50, 1, 0, 1, 0, 1, 0, 1, 0, 1, 0, 1, 0, 1, 0, 1, 0, 1, 0);
+        ten.enter(99);
+        check.same("ten spans", Scene.line(ten, ten.writeBridge()), "99|0|0|0|0|0|0|0|0|0");
         JamBridge empty = Scene.bridge(0, 4, 1);
         empty.writeSpan(0);
         empty.removeLastSpan();

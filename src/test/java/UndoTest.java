@@ -83,12 +83,16 @@ public final class UndoTest {
         check.fails("execute", IllegalArgumentException.class, bridge::execute);
         Scene.feed(bridge, "wait 1;span 0");
         check.fails("execute denied", UnsupportedOperationException.class, bridge::execute);
+        Scene.feed(bridge, "wait x");
+        check.fails("execute with a fault", IllegalArgumentException.class, bridge::execute);
         bridge.feed('c');
         bridge.writeSpan(0);
         bridge.writeBridge();
         bridge.hoursUntilBears(0, 1);
         bridge.saveSnapshot();
         check.same("undoCount", bridge.undoCount(), count);
+        bridge.undo();
+        check.same("the latest change is undone, not a refused one", bridge.hour(), 0);
     }
 
     private static void notUndone() {

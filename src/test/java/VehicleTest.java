@@ -10,6 +10,7 @@ public final class VehicleTest {
         pass();
         setRate();
         wrongVehicles();
+        goneVehicles();
         queries();
         tolls();
         hoursUntilOver();
@@ -107,17 +108,51 @@ public final class VehicleTest {
         bridge.pass(2);
         bridge.enter(2);
         for (int vehicle : new int[] {-1, 0, 2, Integer.MIN_VALUE, Integer.MAX_VALUE}) {
-            String at = "(" + vehicle + ")";
-            Class<NoSuchElementException> due = NoSuchElementException.class;
-            check.fails("weightOf" + at, due, () -> bridge.weightOf(vehicle));
-            check.fails("spanOf" + at, due, () -> bridge.spanOf(vehicle));
-            check.fails("tollOf" + at, due, () -> bridge.tollOf(vehicle));
-            check.fails("hoursUntilOver" + at, due, () -> bridge.hoursUntilOver(vehicle));
+            noSuchVehicle("no vehicle", bridge, vehicle);
         }
         for (int position : new int[] {-1, 1, 8, Integer.MIN_VALUE, Integer.MAX_VALUE}) {
             check.fails("vehicleAt(" + position + ")", IndexOutOfBoundsException.class, () -> bridge.vehicleAt(position));
         }
         check.fails("vehicleAt(0) of none", IndexOutOfBoundsException.class, () -> new JamBridge().vehicleAt(0));
+        noSuchVehicle("a bridge without spans", new JamBridge(), 0);
+    }
+
+    private static void noSuchVehicle(String why, JamBridge bridge, int vehicle) {
+        String at = "(" + vehicle + "), " + why;
+        Class<NoSuchElementException> due = NoSuchElementException.class;
+        check.fails("weightOf" + at, due, () -> bridge.weightOf(vehicle));
+        check.fails("spanOf" + at, due, () -> bridge.spanOf(vehicle));
+        check.fails("tollOf" + at, due, () -> bridge.tollOf(vehicle));
+        check.fails("hoursUntilOver" + at, due, () -> bridge.hoursUntilOver(vehicle));
+    }
+
+    private static void goneVehicles() {
+        JamBridge left = Scene.bridge(24, 4, 10);
+        left.enter(5);
+        left.enter(6);
+        left.pass(1);
+        noSuchVehicle("it has left", left, 0);
+        noSuchVehicle("it has left", left, 1);
+        check.fails("no position", IndexOutOfBoundsException.class, () -> left.vehicleAt(0));
+
+        // 60 + 36 on a strength that falls from 100 to 90.
+        JamBridge sunk = Scene.bridge(24, 12, 50, 1, 0);
+        sunk.enter(60);
+        sunk.enter(36);
+        sunk.pass(3);
+        noSuchVehicle("it has sunk", sunk, 1);
+        check.fails("no second position", IndexOutOfBoundsException.class, () -> sunk.vehicleAt(1));
+        check.same("the other one stays", sunk.weightOf(0), 60);
+        check.same("the sunk one's number is not used again", sunk.enter(1), 2);
+
+        JamBridge undone = Scene.bridge(24, 4, 10);
+        undone.enter(5);
+        undone.undo();
+        noSuchVehicle("its entering is undone", undone, 0);
+        undone.saveSnapshot();
+        undone.enter(5);
+        undone.restoreSnapshot();
+        noSuchVehicle("it is not in the snapshot", undone, 0);
     }
 
     private static void queries() {
@@ -220,6 +255,8 @@ public final class VehicleTest {
     }
 
     private static void loads() {
+        check.same("totalLoad without spans", new JamBridge().totalLoad(), 0);
+        check.same("totalLoadByVehicles without spans", new JamBridge().totalLoadByVehicles(), 0);
         JamBridge bridge = Scene.bridge(24, 4, 10, 4, 10);
         bridge.enter(9);
         bridge.pass(2);
@@ -233,6 +270,12 @@ public final class VehicleTest {
         check.same("totalLoadByVehicles", bridge.totalLoadByVehicles(), 40);
         check.same("load(0)", bridge.load(0), 29);
         check.same("load(1)", bridge.load(1), 11);
+        JamBridge heaviest = Scene.bridge(24, 1, 50);
+        for (int number = 0; number < 8; number++) {
+            heaviest.enter(99);
+        }
+        check.same("totalLoad of eight", heaviest.totalLoad(), 792);
+        check.same("totalLoadByVehicles of eight", heaviest.totalLoadByVehicles(), 792);
     }
 
     private static void greatestWeight() {
